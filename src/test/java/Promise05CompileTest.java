@@ -7,6 +7,8 @@ final class Promise05CompileTest {
         targets();
         causesInOrder();
         operandsWithoutTarget();
+        erasedInstructionsDoNotCount();
+        fullPrograms();
         Checks.finish();
     }
 
@@ -88,6 +90,25 @@ final class Promise05CompileTest {
                 Checks.load(x, op, hasTarget ? 20 : arg);
             }
             Checks.due("compile() with operands " + arg, x.compile(), StackCacher.READY);
+        }
+    }
+
+    private static void erasedInstructionsDoNotCount() {
+        StackCacher x = Checks.largest();
+        Checks.load(x, StackCacher.HALT, 0, StackCacher.JUMP, -1);
+        x.erase();
+        Checks.due("compile() with a bad target erased", x.compile(), StackCacher.READY);
+    }
+
+    private static void fullPrograms() {
+        for (int cells : new int[] {8, 24}) {
+            StackCacher x = new StackCacher(cells, 4, 1, 1);
+            for (int at = 0; at < cells; at++) {
+                Checks.load(x, StackCacher.JUMP, (at + 1) % cells);
+            }
+            Checks.due("compile() of " + cells + " instructions", x.compile(), StackCacher.READY);
+            Checks.due("run to the last one", x.run(cells - 1), StackCacher.READY);
+            Checks.due("pc()", x.pc(), cells - 1);
         }
     }
 }
