@@ -1,11 +1,45 @@
-/** What the tests share: counting wrong answers, loading programs, and reading all of an object's state. */
+import java.util.List;
+import java.util.function.Supplier;
+import java.util.function.ToIntFunction;
+
+/** What the tests share: the document's sentences, counting wrong answers, and reading all of an object's state. */
 final class Checks {
     static final int LOW = Integer.MIN_VALUE;
     static final int HIGH = Integer.MAX_VALUE;
 
+    /** Stands for "any int": both ends, every bound of the document with its neighbours, and powers of two. */
+    static final int[] ANY_INT = {LOW, LOW + 1, -65536, -257, -256, -33, -32, -24, -8, -5, -2, -1, 0, 1, 2, 3, 4, 5, 6,
+        7, 8, 9, 19, 20, 21, 23, 24, 25, 31, 32, 33, 255, 256, 257, 65535, 65536, HIGH - 1, HIGH};
+
+    /** Indices into what parts answers; the areas stand there under their own numbers. */
+    static final int STATUS = 6;
+    static final int PC = 7;
+
+    private static final List<ToIntFunction<StackCacher>> LATER_CALLS = List.of(
+        x -> x.run(0), x -> x.run(1), StackCacher::take, x -> x.feed(11), x -> x.run(2), x -> x.feed(12),
+        x -> x.run(256), StackCacher::take, x -> x.run(256), StackCacher::edit, StackCacher::compile,
+        x -> x.run(3), StackCacher::edit, x -> x.emit(StackCacher.ADDI, 13), StackCacher::compile,
+        StackCacher::erase, x -> x.patch(0, 14), x -> x.emit(StackCacher.HALT, 15), StackCacher::compile,
+        x -> x.run(256), StackCacher::take, StackCacher::take, x -> x.feed(16));
+
     private static int wrong = 0;
 
     private Checks() {
+    }
+
+    /** Runs the test of one sentence of the document, or of a part of one, given in the document's words. */
+    static void sentence(String words, Runnable test) {
+        int before = wrong;
+        try {
+            test.run();
+        } catch (RuntimeException thrown) {
+            // Caught, so that the tests of the other sentences run as well.
+            wrong++;
+            System.out.println("thrown: " + thrown);
+        }
+        if (wrong != before) {
+            System.out.println("BROKEN: " + words);
+        }
     }
 
     static void due(String call, int got, int want) {
@@ -20,6 +54,24 @@ final class Checks {
             wrong++;
             System.out.println(what + ":\n  got " + got + "\n  due " + want);
         }
+    }
+
+    static void dueArea(String when, StackCacher x, int area, String want) {
+        dueText("area " + area + " " + when, area(x, area), want);
+    }
+
+    static void dueParts(String when, StackCacher x, String[] want) {
+        dueText("state " + when, String.join(" ", parts(x)), String.join(" ", want));
+    }
+
+    /** The call must answer as due and change nothing: not what can be read, and not what later calls answer. */
+    static void noEffect(String what, Supplier<StackCacher> made, ToIntFunction<StackCacher> call, int want) {
+        StackCacher x = made.get();
+        String before = state(x);
+        due(what, call.applyAsInt(x), want);
+        dueText("state after " + what, state(x), before);
+        due(what + " again", call.applyAsInt(x), want);
+        dueText("later answers after " + what, later(x), later(made.get()));
     }
 
     static void finish() {
@@ -59,11 +111,18 @@ final class Checks {
         return text.append("]").toString();
     }
 
-    static void dueArea(String when, StackCacher x, int area, String want) {
-        dueText("area " + area + " " + when, area(x, area), want);
+    /** All state that can be read, so that a test can set what must have changed and compare the whole. */
+    static String[] parts(StackCacher x) {
+        String[] found = new String[8];
+        for (int area = StackCacher.STACK; area <= StackCacher.ARGS; area++) {
+            found[area] = area(x, area);
+        }
+        found[STATUS] = "status " + x.status();
+        found[PC] = "pc " + x.pc();
+        return found;
     }
 
-    /** All state that can be read. */
+    /** All state that can be read, in one line. */
     static String state(StackCacher x) {
         StringBuilder text = new StringBuilder();
         text.append("status ").append(x.status()).append(" pc ").append(x.pc());
@@ -73,37 +132,12 @@ final class Checks {
         return text.toString();
     }
 
-    /** An object in each of the seven statuses, with entries wherever the status allows them. */
-    static StackCacher inStatus(int status) {
-        StackCacher x = new StackCacher(24, 4, 2, 2);
-        x.feed(70);
-        x.feed(80);
-        load(x, StackCacher.PUSH, 5, StackCacher.OUT, 0, StackCacher.CALL, 3, StackCacher.PUSH, 6);
-        switch (status) {
-            case StackCacher.EDITING:
-                load(x, StackCacher.HALT, 0);
-                return x;
-            case StackCacher.READY:
-            case StackCacher.HALTED:
-                load(x, StackCacher.HALT, 0);
-                break;
-            case StackCacher.UNDERFLOW:
-                load(x, StackCacher.ADD, 0, StackCacher.HALT, 0);
-                break;
-            case StackCacher.OVERFLOW:
-                load(x, StackCacher.DUP, 0, StackCacher.JUMP, 4);
-                break;
-            case StackCacher.RETURNS_EMPTY:
-                x.patch(2, 4);
-                load(x, StackCacher.RET, 0);
-                break;
-            default:
-                load(x, StackCacher.DROP, 0, StackCacher.CALL, 3, StackCacher.HALT, 0);
-                break;
+    /** Uses the object up: what a fixed run of calls answers from here on, and at last its sizes. */
+    static String later(StackCacher x) {
+        StringBuilder text = new StringBuilder();
+        for (ToIntFunction<StackCacher> call : LATER_CALLS) {
+            text.append(call.applyAsInt(x)).append(": ").append(state(x)).append("\n");
         }
-        due("compile()", x.compile(), StackCacher.READY);
-        x.run(status == StackCacher.READY ? 4 : 256);
-        due("status() of the prepared object", x.status(), status);
-        return x;
+        return text.append(Sizes.of(x)).toString();
     }
 }

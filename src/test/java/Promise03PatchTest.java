@@ -1,60 +1,124 @@
 /** Promise 3: patch sets one operand and nothing else. */
 final class Promise03PatchTest {
     public static void main(String[] args) {
-        anyOperandIsSet();
-        wrongIndicesAreRefused();
-        onlyEditingPatches();
-        aPatchedOperandIsTheOneExecuted();
+        Checks.sentence("answers `REFUSED` and changes nothing if the status is not `EDITING`",
+            Promise03PatchTest::refusedUnlessEditing);
+        Checks.sentence("or at is below 0", Promise03PatchTest::belowZero);
+        Checks.sentence("or at is not below the number of instructions", Promise03PatchTest::notBelowTheNumber);
+        Checks.sentence("(so always with an empty program)", Promise03PatchTest::emptyProgram);
+        Checks.sentence("Otherwise the operand of the instruction at index at becomes arg, which may be any int, and the "
+            + "answer is at.", Promise03PatchTest::anyOperandAtAnyIndex);
+        Checks.sentence("The opcode there, all other instructions and everything else stay unchanged.",
+            Promise03PatchTest::nothingElse);
         Checks.finish();
     }
 
-    private static void anyOperandIsSet() {
-        StackCacher x = Checks.largest();
-        x.feed(9);
-        Checks.load(x, StackCacher.PUSH, 1, StackCacher.JZ, 2, StackCacher.HALT, 3);
-        Checks.due("patch(0, LOW)", x.patch(0, Checks.LOW), 0);
-        Checks.due("patch(1, -1)", x.patch(1, -1), 1);
-        Checks.due("patch(2, HIGH)", x.patch(2, Checks.HIGH), 2);
-        Checks.dueText("state after patches", Checks.state(x),
-            "status 0 pc 0 [] [] [9] [] [1 18 0] [-2147483648 -1 2147483647]");
-        Checks.due("patch(1, 0)", x.patch(1, 0), 1);
-        Checks.dueArea("after patch(1, 0)", x, StackCacher.ARGS, "[-2147483648 0 2147483647]");
+    private static StackCacher editing() {
+        return Prepared.inStatus(StackCacher.EDITING);
     }
 
-    private static void wrongIndicesAreRefused() {
+    /** With instructions 0 to length - 1, whose opcode is op and whose operands are 100, 101 and so on. */
+    private static StackCacher ofLength(int length, int op) {
         StackCacher x = Checks.largest();
-        Checks.due("patch(0, 1) of an empty program", x.patch(0, 1), StackCacher.REFUSED);
-        Checks.load(x, StackCacher.PUSH, 1, StackCacher.HALT, 3);
-        String before = Checks.state(x);
-        for (int at : new int[] {Checks.LOW, -1, 2, 3, 23, 24, 25, Checks.HIGH}) {
-            Checks.due("patch(" + at + ", 7)", x.patch(at, 7), StackCacher.REFUSED);
-            Checks.dueText("state after patch(" + at + ", 7)", Checks.state(x), before);
+        for (int at = 0; at < length; at++) {
+            Checks.load(x, op, 100 + at);
         }
-        x.erase();
-        Checks.due("patch of an erased instruction", x.patch(1, 7), StackCacher.REFUSED);
-        x.erase();
-        Checks.due("patch of an emptied program", x.patch(0, 7), StackCacher.REFUSED);
+        return x;
     }
 
-    private static void onlyEditingPatches() {
-        for (int status = 0; status <= 6; status++) {
-            StackCacher x = Checks.inStatus(status);
-            String before = Checks.state(x);
-            Checks.due("patch in status " + status, x.patch(0, 44), status == 0 ? 0 : StackCacher.REFUSED);
-            if (status != 0) {
-                Checks.dueText("state in status " + status, Checks.state(x), before);
+    private static void refusedUnlessEditing() {
+        for (int status = StackCacher.READY; status <= StackCacher.RETURNS_FULL; status++) {
+            int wanted = status;
+            for (int at : new int[] {0, 3, 6}) {
+                Checks.noEffect("patch(" + at + ", 44) in status " + status, () -> Prepared.inStatus(wanted),
+                    x -> x.patch(at, 44), StackCacher.REFUSED);
+            }
+        }
+        Checks.noEffect("patch(0, 44) while waiting for input", Prepared::waitingForInput, x -> x.patch(0, 44),
+            StackCacher.REFUSED);
+        Checks.noEffect("patch(0, 44) while waiting for output", Prepared::waitingForOutput, x -> x.patch(0, 44),
+            StackCacher.REFUSED);
+    }
+
+    private static void belowZero() {
+        for (int at : Checks.ANY_INT) {
+            if (at < 0) {
+                Checks.noEffect("patch(" + at + ", 44)", Promise03PatchTest::editing, x -> x.patch(at, 44),
+                    StackCacher.REFUSED);
             }
         }
     }
 
-    private static void aPatchedOperandIsTheOneExecuted() {
+    private static void notBelowTheNumber() {
+        for (int at : new int[] {7, 8, 9, 23, 24, 25, 31, 32, 256, 263, 65536, Checks.HIGH - 1, Checks.HIGH}) {
+            Checks.noEffect("patch(" + at + ", 44) of 7 instructions", Promise03PatchTest::editing,
+                x -> x.patch(at, 44), StackCacher.REFUSED);
+        }
+        for (int length = 1; length <= 24; length++) {
+            int at = length;
+            Checks.noEffect("patch(" + at + ", 44) of as many instructions", () -> ofLength(at, StackCacher.PUSH),
+                x -> x.patch(at, 44), StackCacher.REFUSED);
+            StackCacher x = ofLength(length, StackCacher.PUSH);
+            Checks.due("patch of the last of " + length, x.patch(length - 1, 44), length - 1);
+            x.erase();
+            Checks.due("patch of an erased instruction", x.patch(length - 1, 44), StackCacher.REFUSED);
+        }
+    }
+
+    private static StackCacher emptied() {
+        StackCacher x = editing();
+        while (x.count(StackCacher.OPS) > 0) {
+            x.erase();
+        }
+        return x;
+    }
+
+    private static StackCacher cleared() {
+        StackCacher x = editing();
+        x.clear();
+        return x;
+    }
+
+    private static void emptyProgram() {
+        for (int at : Checks.ANY_INT) {
+            Checks.noEffect("patch(" + at + ", 44) at the start", Checks::largest, x -> x.patch(at, 44),
+                StackCacher.REFUSED);
+            Checks.noEffect("patch(" + at + ", 44) with all erased", Promise03PatchTest::emptied,
+                x -> x.patch(at, 44), StackCacher.REFUSED);
+            Checks.noEffect("patch(" + at + ", 44) after clear", Promise03PatchTest::cleared, x -> x.patch(at, 44),
+                StackCacher.REFUSED);
+        }
+    }
+
+    private static void anyOperandAtAnyIndex() {
+        for (int op = 0; op <= 20; op++) {
+            for (int at = 0; at < 24; at++) {
+                StackCacher x = ofLength(24, op);
+                for (int arg : Checks.ANY_INT) {
+                    Checks.due("patch(" + at + ", " + arg + ") of " + op, x.patch(at, arg), at);
+                    Checks.due("view(ARGS, " + at + ")", x.view(StackCacher.ARGS, at), arg);
+                }
+            }
+        }
         StackCacher x = Checks.largest();
         Checks.loadAndCompile(x, StackCacher.PUSH, 1, StackCacher.HALT, 0);
         x.run(256);
         x.edit();
-        x.patch(0, 12);
+        Checks.due("patch(0, 12) after edit", x.patch(0, 12), 0);
         x.compile();
         x.run(256);
-        Checks.dueArea("after the patched run", x, StackCacher.STACK, "[12]");
+        Checks.dueArea("after a run of what was patched", x, StackCacher.STACK, "[12]");
+    }
+
+    private static void nothingElse() {
+        for (int at = 0; at < 7; at++) {
+            StackCacher x = editing();
+            String[] want = Checks.parts(x);
+            int[] operands = {5, 0, 0, 0, 5, 6, 0};
+            operands[at] = -3;
+            want[StackCacher.ARGS] = java.util.Arrays.toString(operands).replace(",", "");
+            Checks.due("patch(" + at + ", -3)", x.patch(at, -3), at);
+            Checks.dueParts("after patch(" + at + ", -3)", x, want);
+        }
     }
 }

@@ -1,267 +1,204 @@
-/** Promise 10: run by status and slice, and every instruction with its faults and waits. */
+/** Promise 10, what run answers by status, by n and by the first outcome; the other Promise10 tests have the rest. */
 final class Promise10RunTest {
-    private static final int ROOM = 4;
+    /** A loop of eight ADDI 1 and a JUMP back, entered at 1, tells by its top and pc how much was executed. */
+    private static final int LOOP = 9;
 
     public static void main(String[] args) {
-        byStatus();
-        sliceSizes();
-        effectsOnTheStack();
-        arithmeticWraps();
-        everyNeedAndGrowth();
-        branches();
-        callsAndReturns();
-        waits();
-        faultsComeBeforeWaits();
-        faultsKeepEarlierEffects();
-        programIsNeverChanged();
+        Checks.sentence("`EDITING`: answers `REFUSED`; nothing changes.", Promise10RunTest::whileEditing);
+        Checks.sentence("`HALTED` or one of the four faults: answers the status; nothing changes.",
+            Promise10RunTest::whenEnded);
+        Checks.sentence("n below 0 becomes 0", Promise10RunTest::belowZero);
+        Checks.sentence("n above 256 becomes 256", Promise10RunTest::above256);
+        Checks.sentence("then up to n instructions are executed one after the other", Promise10RunTest::upToN);
+        Checks.sentence("The first outcome other than `READY` ends the call and is its answer.",
+            Promise10RunTest::firstOutcomeEnds);
+        Checks.sentence("If n instructions were executed all with outcome `READY` (also if n is 0), the answer is "
+            + "`READY`.", Promise10RunTest::allReady);
+        Checks.sentence("With n 0 nothing changes.", Promise10RunTest::zero);
+        Checks.sentence("`run` never changes the program.", Promise10RunTest::programStays);
         Checks.finish();
     }
 
-    private static void byStatus() {
-        for (int status = 0; status <= 6; status++) {
-            if (status == StackCacher.READY) {
-                continue;
-            }
-            StackCacher x = Checks.inStatus(status);
-            String before = Checks.state(x);
-            for (int n : new int[] {Checks.LOW, -1, 0, 1, 256, Checks.HIGH}) {
-                int want = status == StackCacher.EDITING ? StackCacher.REFUSED : status;
-                Checks.due("run(" + n + ") in status " + status, x.run(n), want);
-                Checks.dueText("state after it", Checks.state(x), before);
-            }
+    private static void whileEditing() {
+        for (int n : Checks.ANY_INT) {
+            Checks.noEffect("run(" + n + ") at the start", Checks::largest, x -> x.run(n), StackCacher.REFUSED);
+            Checks.noEffect("run(" + n + ") while editing", () -> Prepared.inStatus(StackCacher.EDITING),
+                x -> x.run(n), StackCacher.REFUSED);
+            Checks.noEffect("run(" + n + ") after BAD_TARGET", () -> {
+                StackCacher x = Checks.largest();
+                Checks.load(x, StackCacher.JUMP, 24);
+                x.compile();
+                return x;
+            }, x -> x.run(n), StackCacher.REFUSED);
         }
     }
 
-    private static void sliceSizes() {
-        int[][] given = {{Checks.LOW, 0}, {-1, 0}, {0, 0}, {1, 1}, {2, 2}, {255, 255}, {256, 256}, {257, 256},
-            {1000, 256}, {Checks.HIGH, 256}};
-        for (int[] pair : given) {
-            StackCacher x = Checks.largest();
-            Checks.loadAndCompile(x, StackCacher.PUSH, 0, StackCacher.ADDI, 1, StackCacher.ADDI, 1,
-                StackCacher.ADDI, 1, StackCacher.ADDI, 1, StackCacher.ADDI, 1, StackCacher.ADDI, 1,
-                StackCacher.ADDI, 1, StackCacher.ADDI, 1, StackCacher.JUMP, 1);
-            Checks.due("run(1)", x.run(1), StackCacher.READY);
-            String before = Checks.state(x);
-            Checks.due("run(" + pair[0] + ")", x.run(pair[0]), StackCacher.READY);
-            int executed = pair[1];
-            Checks.due("pc() after run(" + pair[0] + ")", x.pc(), 1 + executed % 9);
-            Checks.due("top after run(" + pair[0] + ")", x.view(StackCacher.STACK, 0), executed - executed / 9);
-            if (executed == 0) {
-                Checks.dueText("state after run(" + pair[0] + ")", Checks.state(x), before);
+    private static void whenEnded() {
+        for (int status = StackCacher.HALTED; status <= StackCacher.RETURNS_FULL; status++) {
+            int wanted = status;
+            for (int n : Checks.ANY_INT) {
+                Checks.noEffect("run(" + n + ") in status " + status, () -> Prepared.inStatus(wanted), x -> x.run(n),
+                    status);
             }
+            StackCacher x = Prepared.inStatus(status);
+            x.feed(1);
+            x.take();
+            Checks.due("run(256) after feed and take in status " + status, x.run(256), status);
         }
+    }
+
+    private static StackCacher counting() {
         StackCacher x = Checks.largest();
-        Checks.loadAndCompile(x, StackCacher.PUSH, 4, StackCacher.HALT, 0);
+        Checks.load(x, StackCacher.PUSH, 0);
+        for (int at = 1; at < LOOP; at++) {
+            Checks.load(x, StackCacher.ADDI, 1);
+        }
+        Checks.loadAndCompile(x, StackCacher.JUMP, 1);
         Checks.due("run(1)", x.run(1), StackCacher.READY);
-        Checks.due("run(0) before HALT", x.run(0), StackCacher.READY);
-        Checks.due("run(1) at HALT", x.run(1), StackCacher.HALTED);
-        Checks.dueText("halted", Checks.state(x), "status 2 pc 1 [4] [] [] [] [1 0] [4 0]");
+        return x;
     }
 
-    /** Runs one instruction on a stack given from the bottom to the top. */
-    private static void effect(int op, int arg, int[] before, String after) {
-        StackCacher x = Checks.largest();
-        for (int v : before) {
-            Checks.load(x, StackCacher.PUSH, v);
-        }
-        Checks.loadAndCompile(x, op, arg, StackCacher.HALT, 0);
-        x.run(before.length);
-        Checks.due("run(1) of " + op, x.run(1), StackCacher.READY);
-        Checks.due("pc() after " + op, x.pc(), before.length + 1);
-        Checks.dueArea("after " + op, x, StackCacher.STACK, after);
-        Checks.due("run(1) of HALT", x.run(1), StackCacher.HALTED);
-        Checks.dueArea("after HALT", x, StackCacher.STACK, after);
+    private static void executes(int n, int wanted) {
+        StackCacher x = counting();
+        Checks.due("run(" + n + ")", x.run(n), StackCacher.READY);
+        Checks.due("pc() after run(" + n + ")", x.pc(), 1 + wanted % LOOP);
+        Checks.dueArea("after run(" + n + ")", x, StackCacher.STACK, "[" + (wanted - wanted / LOOP) + "]");
+        Checks.due("status() after run(" + n + ")", x.status(), StackCacher.READY);
     }
 
-    private static void effectsOnTheStack() {
-        int[] four = {1, 2, 3, 9};
-        // The wanted stacks are written as view tells them, the top first.
-        effect(StackCacher.PUSH, Checks.LOW, four, "[-2147483648 9 3 2 1]");
-        effect(StackCacher.DUP, 77, four, "[9 9 3 2 1]");
-        effect(StackCacher.DROP, 77, four, "[3 2 1]");
-        effect(StackCacher.SWAP, 77, four, "[3 9 2 1]");
-        effect(StackCacher.OVER, 77, four, "[3 9 3 2 1]");
-        effect(StackCacher.ROT, 77, four, "[2 9 3 1]");
-        effect(StackCacher.NIP, 77, four, "[9 2 1]");
-        effect(StackCacher.TUCK, 77, four, "[9 3 9 2 1]");
-        effect(StackCacher.ADDI, 77, four, "[86 3 2 1]");
-        effect(StackCacher.ADD, 77, four, "[12 2 1]");
-        effect(StackCacher.SUB, 77, four, "[-6 2 1]");
-        effect(StackCacher.MUL, 77, four, "[27 2 1]");
-        effect(StackCacher.XOR, 77, four, "[10 2 1]");
-        effect(StackCacher.LESS, 77, four, "[1 2 1]");
-        // With just the items needed, nothing lies below.
-        effect(StackCacher.DUP, 0, new int[] {6}, "[6 6]");
-        effect(StackCacher.DROP, 0, new int[] {6}, "[]");
-        effect(StackCacher.SWAP, 0, new int[] {6, 7}, "[6 7]");
-        effect(StackCacher.OVER, 0, new int[] {6, 7}, "[6 7 6]");
-        effect(StackCacher.ROT, 0, new int[] {6, 7, 8}, "[6 8 7]");
-        effect(StackCacher.NIP, 0, new int[] {6, 7}, "[7]");
-        effect(StackCacher.TUCK, 0, new int[] {6, 7}, "[7 6 7]");
-        effect(StackCacher.SUB, 0, new int[] {6, 7}, "[-1]");
-    }
-
-    private static void arithmeticWraps() {
-        int low = Checks.LOW;
-        int high = Checks.HIGH;
-        effect(StackCacher.ADDI, 1, new int[] {high}, "[-2147483648]");
-        effect(StackCacher.ADDI, -1, new int[] {low}, "[2147483647]");
-        effect(StackCacher.ADDI, low, new int[] {low}, "[0]");
-        effect(StackCacher.ADD, 0, new int[] {high, high}, "[-2]");
-        effect(StackCacher.ADD, 0, new int[] {low, -1}, "[2147483647]");
-        effect(StackCacher.SUB, 0, new int[] {low, 1}, "[2147483647]");
-        effect(StackCacher.SUB, 0, new int[] {0, low}, "[-2147483648]");
-        effect(StackCacher.MUL, 0, new int[] {high, high}, "[1]");
-        effect(StackCacher.MUL, 0, new int[] {low, -1}, "[-2147483648]");
-        effect(StackCacher.MUL, 0, new int[] {65536, 65536}, "[0]");
-        effect(StackCacher.XOR, 0, new int[] {low, high}, "[-1]");
-        effect(StackCacher.XOR, 0, new int[] {-1, -1}, "[0]");
-        effect(StackCacher.LESS, 0, new int[] {low, high}, "[1]");
-        effect(StackCacher.LESS, 0, new int[] {high, low}, "[0]");
-        effect(StackCacher.LESS, 0, new int[] {-1, 0}, "[1]");
-        effect(StackCacher.LESS, 0, new int[] {0, -1}, "[0]");
-        effect(StackCacher.LESS, 0, new int[] {5, 5}, "[0]");
-    }
-
-    /** Every opcode on every depth of a stack of four, against the document's table. */
-    private static void everyNeedAndGrowth() {
-        int[] need = {0, 0, 1, 1, 2, 2, 3, 2, 2, 1, 2, 2, 2, 2, 2, 0, 1, 0, 1, 0, 0};
-        int[] growth = {0, 1, 1, -1, 0, 1, 0, -1, 1, 0, -1, -1, -1, -1, -1, 1, -1, 0, -1, 0, 0};
-        for (int op = 0; op <= 20; op++) {
-            for (int depth = 0; depth <= ROOM; depth++) {
-                oneDepth(op, depth, need[op], growth[op]);
+    private static void belowZero() {
+        for (int n : Checks.ANY_INT) {
+            if (n < 0) {
+                executes(n, 0);
+                Checks.noEffect("run(" + n + ") before HALT", () -> Prepared.inStatus(StackCacher.READY),
+                    x -> x.run(n), StackCacher.READY);
             }
         }
     }
 
-    private static void oneDepth(int op, int depth, int need, int growth) {
-        String what = "run(1) of " + op + " on " + depth + " items";
-        StackCacher x = new StackCacher(24, ROOM, 2, 2);
-        x.feed(50);
-        // A CALL first, so that RET finds an entry.
-        Checks.load(x, StackCacher.CALL, 1);
-        for (int k = 0; k < depth; k++) {
-            Checks.load(x, StackCacher.PUSH, 3 + k);
-        }
-        Checks.loadAndCompile(x, op, 0, StackCacher.HALT, 0);
-        x.run(depth + 1);
-        String before = Checks.state(x);
-        int fault = depth < need ? StackCacher.UNDERFLOW : depth + growth > ROOM ? StackCacher.OVERFLOW : 0;
-        if (fault != 0) {
-            Checks.due(what, x.run(1), fault);
-            Checks.dueText("state after " + what, Checks.state(x), before.replace("status 1", "status " + fault));
-            Checks.due("pc() after " + what, x.pc(), depth + 1);
-            Checks.due("run(5) after a fault", x.run(5), fault);
-        } else {
-            Checks.due(what, x.run(1), op == StackCacher.HALT ? StackCacher.HALTED : StackCacher.READY);
-            Checks.due("items after " + what, x.count(StackCacher.STACK), depth + growth);
-            Checks.due("input after " + what, x.count(StackCacher.INPUT), op == StackCacher.IN ? 0 : 1);
-            Checks.due("output after " + what, x.count(StackCacher.OUTPUT), op == StackCacher.OUT ? 1 : 0);
-            int entries = op == StackCacher.CALL ? 2 : op == StackCacher.RET ? 0 : 1;
-            Checks.due("returns after " + what, x.count(StackCacher.RETURNS), entries);
+    private static void above256() {
+        for (int n : new int[] {257, 258, 264, 265, 300, 511, 512, 513, 1000, 65535, 65536, 65537, Checks.HIGH - 1,
+            Checks.HIGH}) {
+            executes(n, 256);
         }
     }
 
-    private static void branches() {
-        for (int v : new int[] {0, 1, -1, Checks.LOW, Checks.HIGH}) {
-            StackCacher x = Checks.largest();
-            Checks.loadAndCompile(x, StackCacher.PUSH, 4, StackCacher.PUSH, v, StackCacher.JZ, 4,
-                StackCacher.HALT, 0, StackCacher.JUMP, 3);
-            x.run(2);
-            Checks.due("run(1) of JZ on " + v, x.run(1), StackCacher.READY);
-            Checks.due("pc() after JZ on " + v, x.pc(), v == 0 ? 4 : 3);
-            Checks.dueArea("after JZ on " + v, x, StackCacher.STACK, "[4]");
-            Checks.due("run(256)", x.run(256), StackCacher.HALTED);
-            Checks.due("pc() at the HALT", x.pc(), 3);
+    private static void upToN() {
+        for (int n = 0; n <= 256; n++) {
+            executes(n, n);
         }
-        StackCacher loop = Checks.largest();
-        Checks.loadAndCompile(loop, StackCacher.JUMP, 0);
-        Checks.due("run(256) of a JUMP to itself", loop.run(256), StackCacher.READY);
-        Checks.dueText("state after it", Checks.state(loop), "status 1 pc 0 [] [] [] [] [17] [0]");
+        StackCacher x = counting();
+        for (int k = 1; k <= 3; k++) {
+            Checks.due("run(256) number " + k, x.run(256), StackCacher.READY);
+            Checks.dueArea("after it", x, StackCacher.STACK, "[" + (k * 256 - k * 256 / LOOP) + "]");
+        }
     }
 
-    private static void callsAndReturns() {
-        StackCacher x = new StackCacher(8, 4, 2, 1);
-        Checks.loadAndCompile(x, StackCacher.CALL, 2, StackCacher.HALT, 0, StackCacher.CALL, 4,
-            StackCacher.RET, 77, StackCacher.RET, 77);
-        Checks.due("run(1) of CALL", x.run(1), StackCacher.READY);
-        Checks.due("pc()", x.pc(), 2);
-        Checks.dueArea("after one CALL", x, StackCacher.RETURNS, "[1]");
-        Checks.due("run(1) of CALL", x.run(1), StackCacher.READY);
-        Checks.due("pc()", x.pc(), 4);
-        Checks.dueArea("after two CALLs", x, StackCacher.RETURNS, "[3 1]");
-        Checks.due("run(1) of RET", x.run(1), StackCacher.READY);
-        Checks.due("pc()", x.pc(), 3);
-        Checks.dueArea("after a RET", x, StackCacher.RETURNS, "[1]");
-        Checks.due("run(1) of RET", x.run(1), StackCacher.READY);
-        Checks.due("pc()", x.pc(), 1);
-        Checks.dueArea("after both RETs", x, StackCacher.RETURNS, "[]");
-        Checks.due("run(1) of HALT", x.run(1), StackCacher.HALTED);
-
-        StackCacher full = new StackCacher(8, 4, 3, 1);
-        Checks.loadAndCompile(full, StackCacher.PUSH, 9, StackCacher.CALL, 1, StackCacher.HALT, 0);
-        Checks.due("run(4)", full.run(4), StackCacher.READY);
-        Checks.due("run(1) of one CALL too many", full.run(1), StackCacher.RETURNS_FULL);
-        Checks.dueText("state after it", Checks.state(full), "status 6 pc 1 [9] [2 2 2] [] [] [1 19 0] [9 1 0]");
-
-        StackCacher none = Checks.largest();
-        Checks.loadAndCompile(none, StackCacher.PUSH, 9, StackCacher.RET, 0);
-        Checks.due("run(256) to a RET without CALL", none.run(256), StackCacher.RETURNS_EMPTY);
-        Checks.dueText("state after it", Checks.state(none), "status 5 pc 1 [9] [] [] [] [1 20] [9 0]");
+    /** The smallest object, whose instruction at index last has the outcome; all before it have READY. */
+    private static StackCacher program(int outcome) {
+        StackCacher x = Checks.smallest();
+        switch (outcome) {
+            case StackCacher.HALTED -> Checks.load(x, StackCacher.PUSH, 1, StackCacher.ADDI, 1, StackCacher.HALT, 0);
+            case StackCacher.UNDERFLOW -> Checks.load(x, StackCacher.PUSH, 1, StackCacher.ADDI, 1, StackCacher.ADD, 0);
+            case StackCacher.OVERFLOW -> Checks.load(x, StackCacher.PUSH, 1, StackCacher.DUP, 0, StackCacher.DUP, 0,
+                StackCacher.DUP, 0, StackCacher.PUSH, 2);
+            case StackCacher.RETURNS_EMPTY -> Checks.load(x, StackCacher.PUSH, 1, StackCacher.RET, 0);
+            case StackCacher.RETURNS_FULL -> Checks.load(x, StackCacher.PUSH, 1, StackCacher.CALL, 2,
+                StackCacher.CALL, 3);
+            case StackCacher.WAIT_IN -> Checks.load(x, StackCacher.PUSH, 1, StackCacher.IN, 0);
+            default -> Checks.load(x, StackCacher.PUSH, 1, StackCacher.OUT, 0, StackCacher.PUSH, 2, StackCacher.OUT, 0);
+        }
+        // What would be executed next shows at once if the call does not end.
+        Checks.loadAndCompile(x, StackCacher.DROP, 0, StackCacher.PUSH, 9, StackCacher.HALT, 0);
+        return x;
     }
 
-    private static void waits() {
-        StackCacher x = new StackCacher(8, 4, 1, 2);
-        Checks.loadAndCompile(x, StackCacher.IN, 0, StackCacher.DUP, 0, StackCacher.OUT, 0, StackCacher.JUMP, 1);
-        Checks.due("run(5) without input", x.run(5), StackCacher.WAIT_IN);
-        Checks.due("run(0) without input", x.run(0), StackCacher.READY);
-        Checks.due("run(5) again", x.run(5), StackCacher.WAIT_IN);
-        Checks.dueText("waiting for input", Checks.state(x), "status 1 pc 0 [] [] [] [] [15 2 16 17] [0 0 0 1]");
-        x.feed(6);
-        x.feed(7);
-        Checks.due("run(256) to a full output", x.run(256), StackCacher.WAIT_OUT);
-        String waiting = "status 1 pc 2 [6 6] [] [7] [6 6] [15 2 16 17] [0 0 0 1]";
-        Checks.dueText("waiting for output", Checks.state(x), waiting);
-        Checks.due("run(1) again", x.run(1), StackCacher.WAIT_OUT);
-        Checks.due("run(0)", x.run(0), StackCacher.READY);
-        Checks.dueText("still waiting", Checks.state(x), waiting);
-        x.take();
-        Checks.due("run(1) with room", x.run(1), StackCacher.READY);
-        Checks.dueText("written", Checks.state(x), "status 1 pc 3 [6] [] [7] [6 6] [15 2 16 17] [0 0 0 1]");
+    private static void firstOutcomeEnds() {
+        for (int outcome = StackCacher.HALTED; outcome <= StackCacher.WAIT_OUT; outcome++) {
+            int last = program(outcome).count(StackCacher.OPS) - 4;
+            StackCacher before = program(outcome);
+            Checks.due("run(" + last + ") before outcome " + outcome, before.run(last), StackCacher.READY);
+            String[] want = Checks.parts(before);
+            want[Checks.STATUS] = "status " + (outcome <= StackCacher.RETURNS_FULL ? outcome : StackCacher.READY);
+            want[Checks.PC] = "pc " + last;
+            for (int n : new int[] {last + 1, last + 2, last + 3, 255, 256, 257, Checks.HIGH}) {
+                StackCacher x = program(outcome);
+                Checks.due("run(" + n + ") with outcome " + outcome, x.run(n), outcome);
+                Checks.dueParts("after it", x, want);
+            }
+        }
     }
 
-    private static void faultsComeBeforeWaits() {
-        StackCacher in = Checks.smallest();
-        Checks.loadAndCompile(in, StackCacher.PUSH, 1, StackCacher.PUSH, 2, StackCacher.PUSH, 3,
-            StackCacher.PUSH, 4, StackCacher.IN, 0, StackCacher.HALT, 0);
-        Checks.due("IN on a full stack without input", in.run(256), StackCacher.OVERFLOW);
-        StackCacher out = Checks.smallest();
-        Checks.loadAndCompile(out, StackCacher.PUSH, 1, StackCacher.OUT, 0, StackCacher.OUT, 0, StackCacher.HALT, 0);
-        Checks.due("OUT on an empty stack with a full output", out.run(256), StackCacher.UNDERFLOW);
-        Checks.dueText("state after it", Checks.state(out), "status 3 pc 2 [] [] [] [1] [1 16 16 0] [1 0 0 0]");
+    /** Counts down from start in 4 * start instructions, comes to the op with 0 alone on the stack, and may go on. */
+    private static StackCacher countdown(int start, int op) {
+        StackCacher x = Checks.largest();
+        Checks.loadAndCompile(x, StackCacher.PUSH, start, StackCacher.ADDI, -1, StackCacher.DUP, 0, StackCacher.JZ, 5,
+            StackCacher.JUMP, 1, op, 0, StackCacher.HALT, 0);
+        return x;
     }
 
-    private static void faultsKeepEarlierEffects() {
+    private static void allReady() {
+        int[] ops = {StackCacher.HALT, StackCacher.ADD, StackCacher.RET, StackCacher.IN};
+        int[] outcomes = {StackCacher.HALTED, StackCacher.UNDERFLOW, StackCacher.RETURNS_EMPTY, StackCacher.WAIT_IN};
+        for (int k = 0; k < ops.length; k++) {
+            StackCacher behind = countdown(64, ops[k]);
+            Checks.due("run(256) before " + ops[k], behind.run(256), StackCacher.READY);
+            Checks.due("pc()", behind.pc(), 5);
+            Checks.due("status()", behind.status(), StackCacher.READY);
+            Checks.due("run(0) before " + ops[k], behind.run(0), StackCacher.READY);
+            Checks.due("run(1) of " + ops[k], behind.run(1), outcomes[k]);
+            // With one instruction done beforehand, the slice of 256 just reaches it.
+            StackCacher inside = countdown(64, ops[k]);
+            inside.run(1);
+            Checks.due("run(255) before " + ops[k], inside.run(255), StackCacher.READY);
+            StackCacher last = countdown(64, ops[k]);
+            last.run(1);
+            Checks.due("run(256) up to " + ops[k], last.run(256), outcomes[k]);
+        }
+        for (int n : new int[] {0, 1, 255, 256, 257}) {
+            StackCacher x = counting();
+            Checks.due("run(" + n + ")", x.run(n), StackCacher.READY);
+        }
+    }
+
+    private static StackCacher before(int outcome) {
+        StackCacher x = program(outcome);
+        x.run(x.count(StackCacher.OPS) - 4);
+        return x;
+    }
+
+    private static void zero() {
+        for (int outcome = StackCacher.HALTED; outcome <= StackCacher.WAIT_OUT; outcome++) {
+            int wanted = outcome;
+            Checks.noEffect("run(0) before outcome " + outcome, () -> before(wanted), x -> x.run(0),
+                StackCacher.READY);
+        }
+        Checks.noEffect("run(0) while waiting for input", Prepared::waitingForInput, x -> x.run(0), StackCacher.READY);
+        Checks.noEffect("run(0) while waiting for output", Prepared::waitingForOutput, x -> x.run(0),
+            StackCacher.READY);
+        Checks.noEffect("run(0) before ADDI", Promise10RunTest::counting, x -> x.run(0), StackCacher.READY);
+    }
+
+    private static void programStays() {
+        for (int outcome = StackCacher.HALTED; outcome <= StackCacher.WAIT_OUT; outcome++) {
+            StackCacher x = program(outcome);
+            String[] before = Checks.parts(x);
+            x.run(256);
+            Checks.dueArea("after a run", x, StackCacher.OPS, before[StackCacher.OPS]);
+            Checks.dueArea("after a run", x, StackCacher.ARGS, before[StackCacher.ARGS]);
+        }
         StackCacher x = Checks.largest();
         x.feed(3);
-        x.feed(4);
-        Checks.loadAndCompile(x, StackCacher.IN, 0, StackCacher.OUT, 0, StackCacher.CALL, 3,
-            StackCacher.PUSH, 8, StackCacher.SUB, 0, StackCacher.HALT, 0);
-        Checks.due("run(256) to a fault", x.run(256), StackCacher.UNDERFLOW);
-        Checks.dueText("state after it", Checks.state(x),
-            "status 3 pc 4 [8] [3] [4] [3] [15 16 19 1 11 0] [0 0 3 8 0 0]");
-    }
-
-    private static void programIsNeverChanged() {
-        StackCacher x = Checks.largest();
-        for (int op = 1; op <= 20; op++) {
-            Checks.load(x, op, op);
-        }
-        String ops = Checks.area(x, StackCacher.OPS);
-        String operands = Checks.area(x, StackCacher.ARGS);
-        x.compile();
-        x.run(256);
-        Checks.dueArea("after the run", x, StackCacher.OPS, ops);
-        Checks.dueArea("after the run", x, StackCacher.ARGS, operands);
+        // Every opcode but HALT is executed on the way.
+        Checks.loadAndCompile(x, StackCacher.CALL, 21, StackCacher.PUSH, 4, StackCacher.PUSH, 5, StackCacher.PUSH, 6,
+            StackCacher.SWAP, 7, StackCacher.ROT, 8, StackCacher.OVER, 9, StackCacher.NIP, 10, StackCacher.TUCK, 11,
+            StackCacher.ADDI, 12, StackCacher.ADD, 13, StackCacher.SUB, 14, StackCacher.MUL, 15, StackCacher.IN, 16,
+            StackCacher.XOR, 17, StackCacher.DUP, 18, StackCacher.LESS, 19, StackCacher.JZ, 18, StackCacher.PUSH, 20,
+            StackCacher.DROP, 21, StackCacher.JUMP, 23, StackCacher.PUSH, 22, StackCacher.OUT, 23, StackCacher.RET, 24);
+        String[] before = Checks.parts(x);
+        Checks.due("run(24) of a long program", x.run(24), StackCacher.READY);
+        Checks.due("run(1) of its last RET", x.run(1), StackCacher.RETURNS_EMPTY);
+        Checks.dueArea("after a long run", x, StackCacher.OPS, before[StackCacher.OPS]);
+        Checks.dueArea("after a long run", x, StackCacher.ARGS, before[StackCacher.ARGS]);
     }
 }
