@@ -14,6 +14,7 @@ final class Checks {
     /** Indices into what parts answers; the areas stand there under their own numbers. */
     static final int STATUS = 6;
     static final int PC = 7;
+    private static final int PARTS = 8;
 
     private static final List<ToIntFunction<StackCacher>> LATER_CALLS = List.of(
         x -> x.run(0), x -> x.run(1), StackCacher::take, x -> x.feed(11), x -> x.run(2), x -> x.feed(12),
@@ -67,11 +68,33 @@ final class Checks {
     /** The call must answer as due and change nothing: not what can be read, and not what later calls answer. */
     static void noEffect(String what, Supplier<StackCacher> made, ToIntFunction<StackCacher> call, int want) {
         StackCacher x = made.get();
-        String before = state(x);
         due(what, call.applyAsInt(x), want);
-        dueText("state after " + what, state(x), before);
         due(what + " again", call.applyAsInt(x), want);
         dueText("later answers after " + what, later(x), later(made.get()));
+        // Each part from an object of its own, else a reading call that changes something would hide behind another.
+        for (int part = 0; part < PARTS; part++) {
+            StackCacher called = made.get();
+            call.applyAsInt(called);
+            dueText("part " + part + " after " + what, part(called, part), part(made.get(), part));
+        }
+    }
+
+    /** The call must answer REFUSED and change nothing in every status but EDITING, also while the program waits. */
+    static void refusedUnlessEditing(String what, ToIntFunction<StackCacher> call) {
+        for (int status = StackCacher.READY; status <= StackCacher.RETURNS_FULL; status++) {
+            int wanted = status;
+            noEffect(what + " in status " + status, () -> Prepared.inStatus(wanted), call, StackCacher.REFUSED);
+        }
+        noEffect(what + " while waiting for input", Prepared::waitingForInput, call, StackCacher.REFUSED);
+        noEffect(what + " while waiting for output", Prepared::waitingForOutput, call, StackCacher.REFUSED);
+    }
+
+    /** The next instruction must have the fault, and nothing but the status may change. */
+    static void dueFault(String what, StackCacher x, int fault) {
+        String[] want = parts(x);
+        want[STATUS] = "status " + fault;
+        due("run(1) of " + what, x.run(1), fault);
+        dueParts("after " + what, x, want);
     }
 
     static void finish() {
@@ -92,8 +115,9 @@ final class Checks {
     /** Emits opcode and operand pairs, each of which must be taken. */
     static void load(StackCacher x, int... pairs) {
         for (int k = 0; k < pairs.length; k += 2) {
-            int at = x.count(StackCacher.OPS);
-            due("emit(" + pairs[k] + ", " + pairs[k + 1] + ")", x.emit(pairs[k], pairs[k + 1]), at);
+            if (x.emit(pairs[k], pairs[k + 1]) == StackCacher.REFUSED) {
+                due("emit(" + pairs[k] + ", " + pairs[k + 1] + ")", StackCacher.REFUSED, k / 2);
+            }
         }
     }
 
@@ -111,14 +135,20 @@ final class Checks {
         return text.append("]").toString();
     }
 
+    private static String part(StackCacher x, int part) {
+        return switch (part) {
+            case STATUS -> "status " + x.status();
+            case PC -> "pc " + x.pc();
+            default -> area(x, part);
+        };
+    }
+
     /** All state that can be read, so that a test can set what must have changed and compare the whole. */
     static String[] parts(StackCacher x) {
-        String[] found = new String[8];
-        for (int area = StackCacher.STACK; area <= StackCacher.ARGS; area++) {
-            found[area] = area(x, area);
+        String[] found = new String[PARTS];
+        for (int part = 0; part < PARTS; part++) {
+            found[part] = part(x, part);
         }
-        found[STATUS] = "status " + x.status();
-        found[PC] = "pc " + x.pc();
         return found;
     }
 

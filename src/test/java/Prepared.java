@@ -3,11 +3,12 @@ final class Prepared {
     private Prepared() {
     }
 
-    /** In each status there are entries in every area where the status allows them, and room wherever it leaves any. */
+    /**
+     * In each status there are entries in every area where the status allows them, and room wherever it leaves any.
+     * Nothing is read here, so that a test can tell whether reading changes something.
+     */
     static StackCacher inStatus(int status) {
         StackCacher x = new StackCacher(24, 4, 2, 3);
-        x.feed(70);
-        x.feed(80);
         Checks.load(x, StackCacher.PUSH, 5, StackCacher.OUT, 0, StackCacher.PUSH, 0, StackCacher.OUT, 0,
             StackCacher.CALL, 5, StackCacher.PUSH, 6);
         switch (status) {
@@ -22,12 +23,31 @@ final class Prepared {
             default -> Checks.load(x, StackCacher.HALT, 0);
         }
         Checks.due("compile()", x.compile(), StackCacher.READY);
-        x.run(status <= StackCacher.READY ? 6 : 256);
+        boolean ends = status >= StackCacher.HALTED;
+        Checks.due("run to status " + status, x.run(ends ? 256 : 6), ends ? status : StackCacher.READY);
         if (status == StackCacher.EDITING) {
             x.edit();
         }
-        Checks.due("status() of the prepared object", x.status(), status);
+        // At the end, so that input shows it if a later call empties what it must not touch.
+        x.feed(70);
+        x.feed(80);
         return x;
+    }
+
+    /** What Checks.parts must tell of inStatus, written out, since both could go wrong by the same fault. */
+    static String[] parts(int status) {
+        String stack = status == StackCacher.EDITING ? "[]" : status == StackCacher.OVERFLOW ? "[6 6 6 6]" : "[6]";
+        String returns = status == StackCacher.EDITING || status == StackCacher.RETURNS_EMPTY ? "[]"
+            : status == StackCacher.RETURNS_FULL ? "[7 5]" : "[5]";
+        String[] program = switch (status) {
+            case StackCacher.UNDERFLOW -> new String[] {"[1 16 1 16 19 1 10 0]", "[5 0 0 0 5 6 0 0]"};
+            case StackCacher.OVERFLOW -> new String[] {"[1 16 1 16 19 1 2 17]", "[5 0 0 0 5 6 0 6]"};
+            case StackCacher.RETURNS_FULL -> new String[] {"[1 16 1 16 19 1 19 0]", "[5 0 0 0 5 6 6 0]"};
+            case StackCacher.RETURNS_EMPTY -> new String[] {"[1 16 1 16 19 1 20]", "[5 0 0 0 6 6 0]"};
+            default -> new String[] {"[1 16 1 16 19 1 0]", "[5 0 0 0 5 6 0]"};
+        };
+        return new String[] {stack, returns, "[70 80]", "[5 0]", program[0], program[1], "status " + status,
+            status == StackCacher.EDITING ? "pc 0" : "pc 6"};
     }
 
     /** READY, its last run having answered WAIT_IN; input is empty, all other areas are not. */

@@ -4,29 +4,18 @@ final class Promise02EmitTest {
         33, 64, 255, 256, 257, 65536, 65537, Checks.HIGH - 1, Checks.HIGH};
 
     public static void main(String[] args) {
-        Checks.sentence("the status is not `EDITING`", Promise02EmitTest::refusedUnlessEditing);
+        Checks.sentence("the status is not `EDITING`",
+            () -> Checks.refusedUnlessEditing("emit(1, 2)", x -> x.emit(StackCacher.PUSH, 2)));
         Checks.sentence("op is below 0 or above 20", Promise02EmitTest::wrongOpcodes);
         Checks.sentence("the program already holds programCells instructions", Promise02EmitTest::fullProgram);
         Checks.sentence("answers `REFUSED` and changes nothing if any of these holds",
             Promise02EmitTest::severalReasons);
-        Checks.sentence("Otherwise it appends the instruction (op, arg) at the end of the program and answers the index "
-            + "of the new instruction (0 for the first).", Promise02EmitTest::appends);
+        Checks.sentence("Otherwise it appends the instruction (op, arg) at the end of the program and answers the "
+            + "index of the new instruction (0 for the first).", Promise02EmitTest::appends);
         Checks.sentence("arg may be any int and is kept as given whatever op is, even if the instruction ignores its "
             + "operand or the operand is no valid target.", Promise02EmitTest::anyOperand);
         Checks.sentence("Nothing else changes.", Promise02EmitTest::nothingElse);
         Checks.finish();
-    }
-
-    private static void refusedUnlessEditing() {
-        for (int status = StackCacher.READY; status <= StackCacher.RETURNS_FULL; status++) {
-            int wanted = status;
-            Checks.noEffect("emit(1, 2) in status " + status, () -> Prepared.inStatus(wanted),
-                x -> x.emit(StackCacher.PUSH, 2), StackCacher.REFUSED);
-        }
-        Checks.noEffect("emit(0, 0) while waiting for input", Prepared::waitingForInput,
-            x -> x.emit(StackCacher.HALT, 0), StackCacher.REFUSED);
-        Checks.noEffect("emit(0, 0) while waiting for output", Prepared::waitingForOutput,
-            x -> x.emit(StackCacher.HALT, 0), StackCacher.REFUSED);
     }
 
     private static void wrongOpcodes() {
@@ -105,7 +94,7 @@ final class Promise02EmitTest {
     private static void nothingElse() {
         for (int op = 0; op <= 20; op++) {
             StackCacher x = Prepared.inStatus(StackCacher.EDITING);
-            String[] want = Checks.parts(x);
+            String[] want = Prepared.parts(StackCacher.EDITING);
             want[StackCacher.OPS] = want[StackCacher.OPS].replace("]", " " + op + "]");
             want[StackCacher.ARGS] = want[StackCacher.ARGS].replace("]", " 99]");
             Checks.due("emit(" + op + ", 99)", x.emit(op, 99), 7);

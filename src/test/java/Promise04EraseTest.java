@@ -2,7 +2,7 @@
 final class Promise04EraseTest {
     public static void main(String[] args) {
         Checks.sentence("answers `REFUSED` and changes nothing if the status is not `EDITING`",
-            Promise04EraseTest::refusedUnlessEditing);
+            () -> Checks.refusedUnlessEditing("erase()", StackCacher::erase));
         Checks.sentence("or the program is empty", Promise04EraseTest::emptyProgram);
         Checks.sentence("Otherwise it removes the last instruction and answers the number of instructions left",
             Promise04EraseTest::removesTheLast);
@@ -10,18 +10,6 @@ final class Promise04EraseTest {
         Checks.sentence("The remaining instructions, their operands and everything else stay unchanged.",
             Promise04EraseTest::nothingElse);
         Checks.finish();
-    }
-
-    private static void refusedUnlessEditing() {
-        for (int status = StackCacher.READY; status <= StackCacher.RETURNS_FULL; status++) {
-            int wanted = status;
-            Checks.noEffect("erase() in status " + status, () -> Prepared.inStatus(wanted), StackCacher::erase,
-                StackCacher.REFUSED);
-        }
-        Checks.noEffect("erase() while waiting for input", Prepared::waitingForInput, StackCacher::erase,
-            StackCacher.REFUSED);
-        Checks.noEffect("erase() while waiting for output", Prepared::waitingForOutput, StackCacher::erase,
-            StackCacher.REFUSED);
     }
 
     private static StackCacher emptied() {
@@ -77,7 +65,7 @@ final class Promise04EraseTest {
     private static void nothingElse() {
         StackCacher x = Prepared.inStatus(StackCacher.EDITING);
         Checks.load(x, StackCacher.JZ, Checks.LOW, StackCacher.ADDI, Checks.HIGH);
-        String[] want = Checks.parts(x);
+        String[] want = Prepared.parts(StackCacher.EDITING);
         Checks.due("erase()", x.erase(), 8);
         want[StackCacher.OPS] = "[1 16 1 16 19 1 0 18]";
         want[StackCacher.ARGS] = "[5 0 0 0 5 6 0 " + Checks.LOW + "]";

@@ -15,8 +15,8 @@ final class Promise05CompileTest {
         Checks.sentence("considers the following in this order", Promise05CompileTest::reasonsInOrder);
         Checks.sentence("the first that holds gives the answer, and then nothing changes",
             Promise05CompileTest::nothingChanges);
-        Checks.sentence("Otherwise the status becomes `READY`, with stack and returns empty and pc 0; program, input and "
-            + "output stay as they are; the answer is `READY`.", Promise05CompileTest::becomesReady);
+        Checks.sentence("Otherwise the status becomes `READY`, with stack and returns empty and pc 0; program, input "
+            + "and output stay as they are; the answer is `READY`.", Promise05CompileTest::becomesReady);
         Checks.sentence("Operands of other opcodes are never a reason for an answer other than `READY`.",
             Promise05CompileTest::otherOperands);
         Checks.finish();
@@ -48,12 +48,7 @@ final class Promise05CompileTest {
     }
 
     private static void refusedUnlessEditing() {
-        for (int status = StackCacher.READY; status <= StackCacher.RETURNS_FULL; status++) {
-            int wanted = status;
-            refuses("in status " + status, () -> Prepared.inStatus(wanted), StackCacher.REFUSED);
-        }
-        refuses("while waiting for input", Prepared::waitingForInput, StackCacher.REFUSED);
-        refuses("while waiting for output", Prepared::waitingForOutput, StackCacher.REFUSED);
+        Checks.refusedUnlessEditing("compile()", StackCacher::compile);
         refuses("when just compiled", () -> {
             StackCacher x = Checks.largest();
             Checks.loadAndCompile(x, StackCacher.HALT, 0);
@@ -216,7 +211,7 @@ final class Promise05CompileTest {
 
     private static void becomesReady() {
         StackCacher x = Prepared.inStatus(StackCacher.EDITING);
-        String[] want = Checks.parts(x);
+        String[] want = Prepared.parts(StackCacher.EDITING);
         Checks.due("compile()", x.compile(), StackCacher.READY);
         want[Checks.STATUS] = "status 1";
         Checks.dueParts("after compile()", x, want);

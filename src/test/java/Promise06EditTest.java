@@ -3,8 +3,8 @@ final class Promise06EditTest {
     public static void main(String[] args) {
         Checks.sentence("answers `REFUSED` and changes nothing if the status is `EDITING`",
             Promise06EditTest::refusedWhileEditing);
-        Checks.sentence("In every other status (`READY`, `HALTED` or any fault) the status becomes `EDITING`, stack and "
-            + "returns become empty, and pc becomes 0; program, input and output stay as they are; the answer is "
+        Checks.sentence("In every other status (`READY`, `HALTED` or any fault) the status becomes `EDITING`, stack "
+            + "and returns become empty, and pc becomes 0; program, input and output stay as they are; the answer is "
             + "`EDITING`.", Promise06EditTest::everyOtherStatus);
         Checks.sentence("stack and returns become empty", Promise06EditTest::fullStackAndReturns);
         Checks.sentence("pc becomes 0", Promise06EditTest::theNextRunBeginsAnew);
@@ -29,7 +29,10 @@ final class Promise06EditTest {
     }
 
     private static void goesBack(String when, StackCacher x) {
-        String[] want = Checks.parts(x);
+        goesBack(when, x, Checks.parts(x));
+    }
+
+    private static void goesBack(String when, StackCacher x, String[] want) {
         want[Checks.STATUS] = "status 0";
         want[Checks.PC] = "pc 0";
         want[StackCacher.STACK] = "[]";
@@ -44,7 +47,7 @@ final class Promise06EditTest {
 
     private static void everyOtherStatus() {
         for (int status = StackCacher.READY; status <= StackCacher.RETURNS_FULL; status++) {
-            goesBack("in status " + status, Prepared.inStatus(status));
+            goesBack("in status " + status, Prepared.inStatus(status), Prepared.parts(status));
         }
         goesBack("while waiting for input", Prepared.waitingForInput());
         goesBack("while waiting for output", Prepared.waitingForOutput());

@@ -4,8 +4,8 @@ final class Promise07ClearTest {
 
     public static void main(String[] args) {
         Checks.sentence("`clear()` works in any status.", Promise07ClearTest::anyStatus);
-        Checks.sentence("It brings the object back to the state the constructor made: status `EDITING`; program, stack, "
-            + "returns, input and output empty; pc 0.", Promise07ClearTest::asTheConstructorMade);
+        Checks.sentence("It brings the object back to the state the constructor made: status `EDITING`; program, "
+            + "stack, returns, input and output empty; pc 0.", Promise07ClearTest::asTheConstructorMade);
         Checks.sentence("The clamped sizes stay the same.", Promise07ClearTest::sizesStay);
         Checks.finish();
     }

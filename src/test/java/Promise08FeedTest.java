@@ -16,7 +16,7 @@ final class Promise08FeedTest {
     private static void anyStatus() {
         for (int status = StackCacher.EDITING; status <= StackCacher.RETURNS_FULL; status++) {
             StackCacher x = Prepared.inStatus(status);
-            String[] want = Checks.parts(x);
+            String[] want = Prepared.parts(status);
             Checks.due("feed(90) in status " + status, x.feed(90), 3);
             want[StackCacher.INPUT] = "[70 80 90]";
             Checks.dueParts("after it", x, want);

@@ -14,7 +14,7 @@ final class Promise09TakeTest {
     private static void anyStatus() {
         for (int status = StackCacher.EDITING; status <= StackCacher.RETURNS_FULL; status++) {
             StackCacher x = Prepared.inStatus(status);
-            String[] want = Checks.parts(x);
+            String[] want = Prepared.parts(status);
             Checks.due("take() in status " + status, x.take(), 5);
             want[StackCacher.OUTPUT] = "[0]";
             Checks.dueParts("after it", x, want);

@@ -57,13 +57,6 @@ final class Promise10ExecuteTest {
         return x;
     }
 
-    private static void faults(String what, StackCacher x, int fault) {
-        String[] want = Checks.parts(x);
-        want[Checks.STATUS] = "status " + fault;
-        Checks.due("run(1) of " + what, x.run(1), fault);
-        Checks.dueParts("after " + what, x, want);
-    }
-
     private static void goesOn(String what, StackCacher x, int itemsAfter) {
         Checks.due("run(1) of " + what, x.run(1), StackCacher.READY);
         Checks.due("status() after " + what, x.status(), StackCacher.READY);
@@ -104,7 +97,7 @@ final class Promise10ExecuteTest {
     private static void underflow() {
         for (int op = 0; op <= 20; op++) {
             for (int depth = 0; depth < Table.NEED[op]; depth++) {
-                faults(op + " on " + depth + " items", atDepth(5, depth, op, 9), StackCacher.UNDERFLOW);
+                Checks.dueFault(op + " on " + depth + " items", atDepth(5, depth, op, 9), StackCacher.UNDERFLOW);
             }
             if (op != StackCacher.HALT) {
                 int enough = Table.NEED[op];
@@ -119,7 +112,7 @@ final class Promise10ExecuteTest {
                 int growth = Table.GROWTH[op];
                 String what = op + " in " + cells + " cells";
                 if (growth > 0) {
-                    faults(what + ", all full", atDepth(cells, cells, op, 9), StackCacher.OVERFLOW);
+                    Checks.dueFault(what + ", all full", atDepth(cells, cells, op, 9), StackCacher.OVERFLOW);
                 } else {
                     goesOn(what + ", all full", atDepth(cells, cells, op, 9), cells + growth);
                 }
@@ -146,8 +139,8 @@ final class Promise10ExecuteTest {
                 goesOn("CALL with " + entries + " of " + cells, calling(cells, entries, false), 0);
                 goesOn("CALL with " + entries + " of " + cells + " on a full stack", calling(cells, entries, true), 4);
             }
-            faults("CALL with all of " + cells, calling(cells, cells, false), StackCacher.RETURNS_FULL);
-            faults("CALL with all of " + cells + " on a full stack", calling(cells, cells, true),
+            Checks.dueFault("CALL with all of " + cells, calling(cells, cells, false), StackCacher.RETURNS_FULL);
+            Checks.dueFault("CALL with all of " + cells + " on a full stack", calling(cells, cells, true),
                 StackCacher.RETURNS_FULL);
         }
     }
@@ -165,13 +158,13 @@ final class Promise10ExecuteTest {
 
     private static void returnsEmpty() {
         for (int items = 0; items <= 4; items++) {
-            faults("RET without CALL on " + items + " items", returning(items), StackCacher.RETURNS_EMPTY);
+            Checks.dueFault("RET without CALL on " + items + " items", returning(items), StackCacher.RETURNS_EMPTY);
         }
         StackCacher x = Checks.largest();
         // The RET comes back to itself, and so is met once more than there was a CALL.
         Checks.loadAndCompile(x, StackCacher.CALL, 1, StackCacher.RET, 0);
         Checks.due("run(2)", x.run(2), StackCacher.READY);
-        faults("a second RET after one CALL", x, StackCacher.RETURNS_EMPTY);
+        Checks.dueFault("a second RET after one CALL", x, StackCacher.RETURNS_EMPTY);
     }
 
     private static void waitIn() {
@@ -229,26 +222,21 @@ final class Promise10ExecuteTest {
 
     private static void faultsChangeTheStatusAlone() {
         for (int fault = StackCacher.UNDERFLOW; fault <= StackCacher.RETURNS_FULL; fault++) {
-            // The same program in a slice that ends just before the fault: there is no other way to see that state.
             StackCacher x = Prepared.inStatus(fault);
-            String[] atFault = Checks.parts(x);
             x.edit();
             x.take();
             x.take();
             x.compile();
+            // In slices of one up to the fault, and then over it.
             int executed = 0;
+            String[] before = Checks.parts(x);
             while (executed < 100 && x.run(1) == StackCacher.READY) {
+                before = Checks.parts(x);
                 executed++;
             }
-            Checks.dueParts("at fault " + fault + " after " + executed + " slices", x, atFault);
-            x.edit();
-            x.take();
-            x.take();
-            x.compile();
-            Checks.due("run(" + executed + ")", x.run(executed), StackCacher.READY);
-            atFault[Checks.STATUS] = "status 1";
-            Checks.dueParts("just before fault " + fault, x, atFault);
-            faults("what has fault " + fault, x, fault);
+            before[Checks.STATUS] = "status " + fault;
+            Checks.dueParts("at fault " + fault, x, before);
+            Checks.dueParts("at fault " + fault, x, Prepared.parts(fault));
         }
     }
 
@@ -338,7 +326,7 @@ final class Promise10ExecuteTest {
             if (values == 1) {
                 x.feed(9);
             }
-            faults("IN on a full stack with " + values + " values", x, StackCacher.OVERFLOW);
+            Checks.dueFault("IN on a full stack with " + values + " values", x, StackCacher.OVERFLOW);
         }
     }
 
@@ -350,7 +338,7 @@ final class Promise10ExecuteTest {
             if (values == 0) {
                 x.take();
             }
-            faults("OUT on an empty stack with " + values + " of 1 in output", x, StackCacher.UNDERFLOW);
+            Checks.dueFault("OUT on an empty stack with " + values + " of 1 in output", x, StackCacher.UNDERFLOW);
         }
     }
 }

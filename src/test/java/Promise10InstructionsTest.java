@@ -58,8 +58,8 @@ final class Promise10InstructionsTest {
         Checks.sentence("r is 1 if x < y (signed), else 0", Promise10InstructionsTest::signedLess);
         Checks.sentence("After every instruction other than `HALT`, `JUMP`, `JZ`, `CALL` and `RET`, pc becomes pc+1.",
             Promise10InstructionsTest::theNextInstruction);
-        Checks.sentence("Among the instructions, only `IN` changes input, only `OUT` changes output, and only `CALL` and "
-            + "`RET` change returns.", Promise10InstructionsTest::queuesAndReturns);
+        Checks.sentence("Among the instructions, only `IN` changes input, only `OUT` changes output, and only `CALL` "
+            + "and `RET` change returns.", Promise10InstructionsTest::queuesAndReturns);
         Checks.finish();
     }
 
@@ -105,20 +105,13 @@ final class Promise10InstructionsTest {
         Checks.dueParts("after " + what, x, want);
     }
 
-    private static void faults(String what, StackCacher x, int fault) {
-        String[] want = Checks.parts(x);
-        want[Checks.STATUS] = "status " + fault;
-        Checks.due("run(1) of " + what, x.run(1), fault);
-        Checks.dueParts("after " + what, x, want);
-    }
-
     /** One row of an instruction that works on the stack alone: on every depth, from nothing to a full stack. */
     private static void row(int op, int arg, int[] before, int[] after) {
         for (int below = 0; below + before.length <= CELLS; below++) {
             String what = op + " over " + below + " others";
             StackCacher x = before(op, arg, below, before);
             if (below + after.length > CELLS) {
-                faults(what, x, StackCacher.OVERFLOW);
+                Checks.dueFault(what, x, StackCacher.OVERFLOW);
             } else {
                 String[] want = Checks.parts(x);
                 want[StackCacher.STACK] = stack(below, after);
@@ -127,7 +120,7 @@ final class Promise10InstructionsTest {
             }
         }
         for (int depth = 0; depth < before.length; depth++) {
-            faults(op + " on " + depth + " items", before(op, arg, depth), StackCacher.UNDERFLOW);
+            Checks.dueFault(op + " on " + depth + " items", before(op, arg, depth), StackCacher.UNDERFLOW);
         }
     }
 
@@ -150,7 +143,7 @@ final class Promise10InstructionsTest {
             want[Checks.PC] = "pc " + (x.pc() + 1);
             dueAfter("IN on " + below + " items", x, want);
         }
-        faults("IN on a full stack", before(StackCacher.IN, 9, CELLS), StackCacher.OVERFLOW);
+        Checks.dueFault("IN on a full stack", before(StackCacher.IN, 9, CELLS), StackCacher.OVERFLOW);
     }
 
     private static void out() {
@@ -162,7 +155,7 @@ final class Promise10InstructionsTest {
             want[Checks.PC] = "pc " + (x.pc() + 1);
             dueAfter("OUT over " + below + " others", x, want);
         }
-        faults("OUT on no item", before(StackCacher.OUT, 9, 0), StackCacher.UNDERFLOW);
+        Checks.dueFault("OUT on no item", before(StackCacher.OUT, 9, 0), StackCacher.UNDERFLOW);
     }
 
     private static void jump() {
@@ -205,7 +198,7 @@ final class Promise10InstructionsTest {
         want[StackCacher.STACK] = stack(CELLS - 1);
         want[Checks.PC] = "pc 0";
         dueAfter("JZ on a full stack", full, want);
-        faults("JZ on no item", before(StackCacher.JZ, 0, 0), StackCacher.UNDERFLOW);
+        Checks.dueFault("JZ on no item", before(StackCacher.JZ, 0, 0), StackCacher.UNDERFLOW);
     }
 
     private static void call() {
@@ -220,7 +213,7 @@ final class Promise10InstructionsTest {
         }
         StackCacher x = before(StackCacher.CALL, 3, 0);
         x.run(1);
-        faults("CALL with returns full", x, StackCacher.RETURNS_FULL);
+        Checks.dueFault("CALL with returns full", x, StackCacher.RETURNS_FULL);
     }
 
     private static void ret() {

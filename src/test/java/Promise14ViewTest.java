@@ -15,23 +15,14 @@ final class Promise14ViewTest {
         Checks.sentence("`ARGS`: the operand at index i, as given by the `emit` or `patch` that set it last",
             Promise14ViewTest::operands);
         Checks.sentence("An entry may itself be 0.", Promise14ViewTest::entriesOfZero);
-        Checks.sentence("In status `READY`, `HALTED` or a fault, the areas `STACK` and `RETURNS` show the complete stack "
-            + "and returns as they are after the instructions executed so far.", Promise14ViewTest::complete);
+        Checks.sentence("In status `READY`, `HALTED` or a fault, the areas `STACK` and `RETURNS` show the complete "
+            + "stack and returns as they are after the instructions executed so far.", Promise14ViewTest::complete);
         Checks.finish();
     }
 
     private static void anyStatus() {
-        String program = "[70 80] [5 0] ";
-        String[] want = {
-            "status 0 pc 0 [] [] " + program + "[1 16 1 16 19 1 0] [5 0 0 0 5 6 0]",
-            "status 1 pc 6 [6] [5] " + program + "[1 16 1 16 19 1 0] [5 0 0 0 5 6 0]",
-            "status 2 pc 6 [6] [5] " + program + "[1 16 1 16 19 1 0] [5 0 0 0 5 6 0]",
-            "status 3 pc 6 [6] [5] " + program + "[1 16 1 16 19 1 10 0] [5 0 0 0 5 6 0 0]",
-            "status 4 pc 6 [6 6 6 6] [5] " + program + "[1 16 1 16 19 1 2 17] [5 0 0 0 5 6 0 6]",
-            "status 5 pc 6 [6] [] " + program + "[1 16 1 16 19 1 20] [5 0 0 0 6 6 0]",
-            "status 6 pc 6 [6] [7 5] " + program + "[1 16 1 16 19 1 19 0] [5 0 0 0 5 6 6 0]"};
         for (int status = 0; status <= 6; status++) {
-            Checks.dueText("view in status " + status, Checks.state(Prepared.inStatus(status)), want[status]);
+            Checks.dueParts("in status " + status, Prepared.inStatus(status), Prepared.parts(status));
         }
     }
 

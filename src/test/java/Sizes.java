@@ -8,7 +8,8 @@ final class Sizes {
 
     /** Clears the object: "program stack returns input output". */
     static String of(StackCacher x) {
-        return programCells(x) + " " + stackCells(x) + " " + returnCells(x) + " " + inputCells(x) + " " + outputCells(x);
+        return programCells(x) + " " + stackCells(x) + " " + returnCells(x)
+            + " " + inputCells(x) + " " + outputCells(x);
     }
 
     static int programCells(StackCacher x) {

@@ -55,7 +55,27 @@ final class WhatItIsTest {
         return text;
     }
 
+    /** Counts without end, with JUMP, CALL and RET in every round: no wait and no fault cuts a slice short. */
+    private static StackCacher counter() {
+        StackCacher x = Checks.smallest();
+        Checks.loadAndCompile(x, StackCacher.PUSH, 0, StackCacher.CALL, 3, StackCacher.JUMP, 1, StackCacher.ADDI, 1,
+            StackCacher.RET, 0);
+        return x;
+    }
+
+    private static void sameInOneSlice(int slice, StackCacher whole, StackCacher single) {
+        int outcome = StackCacher.READY;
+        for (int n = 0; n < slice && outcome == StackCacher.READY; n++) {
+            outcome = single.run(1);
+        }
+        Checks.due("run(" + slice + ")", whole.run(slice), outcome);
+        Checks.dueText("after run(" + slice + ")", Checks.state(whole), Checks.state(single));
+    }
+
     private static void slicesOfAnySize() {
+        for (int slice = 1; slice <= 256; slice++) {
+            sameInOneSlice(slice, counter(), counter());
+        }
         for (int slice = 2; slice <= 40; slice++) {
             StackCacher whole = adder();
             StackCacher single = adder();
@@ -66,12 +86,7 @@ final class WhatItIsTest {
                 if (k % 4 == 0) {
                     Checks.due("take", whole.take(), single.take());
                 }
-                int outcome = StackCacher.READY;
-                for (int n = 0; n < slice && outcome == StackCacher.READY; n++) {
-                    outcome = single.run(1);
-                }
-                Checks.due("run(" + slice + ")", whole.run(slice), outcome);
-                Checks.dueText("after run(" + slice + ")", Checks.state(whole), Checks.state(single));
+                sameInOneSlice(slice, whole, single);
             }
         }
     }
